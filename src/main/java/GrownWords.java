@@ -75,7 +75,7 @@ public final class GrownWords {
     public int baggage(int n) throws IllegalArgumentException {
         mustFit(n >= 0 && n <= tapeSize);
         tapeSize = 0;
-        spare.clear();
+        spare.forgetAll();
         reader.begin(n);
         // Each LINE takes a byte at least.
         for (int k = 0; k < MOST_BYTES && reader.goesOn(); k++) {
@@ -104,7 +104,7 @@ public final class GrownWords {
     public int count(int what) throws NoSuchElementException {
         switch (what) {
             case 0:
-                return load.words.size();
+                return load.words.many();
             case 1:
                 return trunkCount();
             case 2:
@@ -147,7 +147,7 @@ public final class GrownWords {
         mustBe(isWord(word) && what >= 0 && what <= 4);
         switch (what) {
             case 0:
-                return load.words.of(word).size();
+                return load.words.of(word).length();
             case 1:
                 return load.words.firmness(word);
             case 2:
@@ -173,8 +173,8 @@ public final class GrownWords {
     public int letter(int word, int i) throws NoSuchElementException {
         mustBe(isWord(word));
         Letters letters = load.words.of(word);
-        mustBe(i >= 0 && i < letters.size());
-        return letters.get(i);
+        mustBe(i >= 0 && i < letters.length());
+        return letters.signAt(i);
     }
 
     public int trunk(int trunk, int what) throws NoSuchElementException {
@@ -286,7 +286,7 @@ public final class GrownWords {
     private int nearestToBlend() {
         int nearest = NONE;
         int fewest = 0;
-        for (int w = 0; w < load.words.size(); w++) {
+        for (int w = 0; w < load.words.many(); w++) {
             int changes = measure.changes(blend, load.words.of(w));
             if (nearest == NONE || changes < fewest) {
                 nearest = w;
@@ -301,7 +301,7 @@ public final class GrownWords {
         mustFit(isAhead(days));
         growProbe(trunk, story.now.get(trunk).strap, days);
         load.blendInto(probe, blend);
-        return i >= 0 && i < blend.size() ? blend.get(i) : NONE;
+        return i >= 0 && i < blend.length() ? blend.signAt(i) : NONE;
     }
 
     public int later(int days, int what) throws NoSuchElementException, IllegalArgumentException {
@@ -326,7 +326,7 @@ public final class GrownWords {
 
     public int full(int trunk) throws NoSuchElementException {
         mustBe(isTrunk(trunk));
-        probe.setAs(story.now.get(trunk));
+        probe.becomeAs(story.now.get(trunk));
         for (int day = 0; day <= DAYS_AHEAD; day++) {
             if (load.isFull(probe)) {
                 return day;
@@ -338,7 +338,7 @@ public final class GrownWords {
 
     public int read(int trunk, int word) throws NoSuchElementException {
         mustBe(isTrunk(trunk) && isWord(word));
-        probe.setAs(story.now.get(trunk));
+        probe.becomeAs(story.now.get(trunk));
         for (int day = 0; day <= DAYS_AHEAD; day++) {
             load.blendInto(probe, blend);
             if (blend.holds(load.words.of(word))) {
@@ -354,8 +354,8 @@ public final class GrownWords {
         if (trunk == other) {
             return NONE;
         }
-        probe.setAs(story.now.get(trunk));
-        rival.setAs(story.now.get(other));
+        probe.becomeAs(story.now.get(trunk));
+        rival.becomeAs(story.now.get(other));
         for (int day = 0; day <= DAYS_AHEAD; day++) {
             load.blendInto(probe, blend);
             load.blendInto(rival, otherBlend);
@@ -376,7 +376,7 @@ public final class GrownWords {
 
     /** The probe is the TRUNK behind so many DAYS, had it this STRAP now. */
     private void growProbe(int trunk, int strap, int days) {
-        probe.setAs(story.now.get(trunk));
+        probe.becomeAs(story.now.get(trunk));
         probe.strap = strap;
         for (int day = 0; day < days; day++) {
             growBy(probe, day);
@@ -399,7 +399,7 @@ public final class GrownWords {
         if (i == NONE) {
             return load.words.rowLetters();
         }
-        mustBe(i >= 0 && i < load.words.size());
+        mustBe(i >= 0 && i < load.words.many());
         return load.words.inRow(i);
     }
 
@@ -529,7 +529,7 @@ public final class GrownWords {
 
     private boolean fitsSeen(int trunk, int strap) {
         int lastDay = story.lastSeenDay(trunk);
-        probe.setAs(story.now.get(trunk));
+        probe.becomeAs(story.now.get(trunk));
         probe.strap = strap;
         for (int day = 0; day <= lastDay; day++) {
             if (!story.agrees(trunk, day, load.blendSize(probe))) {
@@ -559,7 +559,7 @@ public final class GrownWords {
         mustFit(days >= 1 && days <= 5 && tenths >= 0 && tenths <= 10);
         int likely = 0;
         for (int hotDays = 0; hotDays < 1 << days; hotDays++) {
-            probe.setAs(story.now.get(trunk));
+            probe.becomeAs(story.now.get(trunk));
             int share = 1;
             for (int day = 0; day < days; day++) {
                 boolean hot = (hotDays & 1 << day) != 0;
@@ -597,7 +597,7 @@ public final class GrownWords {
         mustBe(what >= 0 && what <= 2);
         mustFit(isAhead(n));
         this.seed = seed;
-        dream.setAs(story.now);
+        dream.copyAll(story.now);
         int often = 0;
         for (int day = 0; day < n; day++) {
             drawAhead();
@@ -620,7 +620,7 @@ public final class GrownWords {
         } else if (kind == 1) {
             one.strap = drawOf(10);
         } else {
-            int word = drawOf(load.words.size());
+            int word = drawOf(load.words.many());
             one.packIn(drawOf(2), word);
         }
     }
@@ -633,13 +633,13 @@ public final class GrownWords {
     // ---- the IMAGE
 
     public void image() {
-        imaged.setAs(story);
+        imaged.takeOver(story);
         hasImage = true;
     }
 
     public boolean restore() {
         if (hasImage) {
-            story.setAs(imaged);
+            story.takeOver(imaged);
         }
         return hasImage;
     }
@@ -647,7 +647,7 @@ public final class GrownWords {
     // ---- what calls ask for, and rows of numbers
 
     private boolean isWord(int word) {
-        return word >= 0 && word < load.words.size();
+        return word >= 0 && word < load.words.many();
     }
 
     private boolean isTrunk(int trunk) {
@@ -704,22 +704,22 @@ public final class GrownWords {
             signs = new int[most > 0 ? most : 0];
         }
 
-        void clear() {
+        void empty() {
             size = 0;
         }
 
-        void add(int letter) {
+        void addLetter(int letter) {
             if (size < signs.length) {
                 put(signs, size, letter);
                 size++;
             }
         }
 
-        int size() {
+        int length() {
             return size;
         }
 
-        int get(int i) {
+        int signAt(int i) {
             return at(signs, i);
         }
 
@@ -781,36 +781,36 @@ public final class GrownWords {
         private final int[] line = new int[2 * MOST_LETTERS + 1];
 
         int changes(Letters from, Letters to) {
-            for (int k = 0; k <= to.size(); k++) {
+            for (int k = 0; k <= to.length(); k++) {
                 put(line, k, k);
             }
-            for (int i = 0; i < from.size(); i++) {
+            for (int i = 0; i < from.length(); i++) {
                 int slant = at(line, 0);
                 put(line, 0, i + 1);
-                for (int k = 0; k < to.size(); k++) {
+                for (int k = 0; k < to.length(); k++) {
                     int above = at(line, k + 1);
-                    int other = slant + (from.get(i) == to.get(k) ? 0 : 1);
+                    int other = slant + (from.signAt(i) == to.signAt(k) ? 0 : 1);
                     put(line, k + 1, Math.min(other, Math.min(above, at(line, k)) + 1));
                     slant = above;
                 }
             }
-            return at(line, to.size());
+            return at(line, to.length());
         }
 
         int common(Letters one, Letters other) {
-            for (int k = 0; k <= other.size(); k++) {
+            for (int k = 0; k <= other.length(); k++) {
                 put(line, k, 0);
             }
-            for (int i = 0; i < one.size(); i++) {
+            for (int i = 0; i < one.length(); i++) {
                 int slant = 0;
-                for (int k = 0; k < other.size(); k++) {
+                for (int k = 0; k < other.length(); k++) {
                     int above = at(line, k + 1);
-                    boolean like = one.get(i) == other.get(k);
+                    boolean like = one.signAt(i) == other.signAt(k);
                     put(line, k + 1, like ? slant + 1 : Math.max(above, at(line, k)));
                     slant = above;
                 }
             }
-            return at(line, other.size());
+            return at(line, other.length());
         }
     }
 
@@ -900,11 +900,11 @@ public final class GrownWords {
             }
         }
 
-        void clear() {
+        void startAnew() {
             count = 0;
         }
 
-        int size() {
+        int many() {
             return count;
         }
 
@@ -916,7 +916,7 @@ public final class GrownWords {
             return rows[word];
         }
 
-        boolean isTold(Letters letters) {
+        boolean hasAlready(Letters letters) {
             for (int w = 0; w < count; w++) {
                 if (of(w).isSame(letters)) {
                     return true;
@@ -977,14 +977,14 @@ public final class GrownWords {
             for (int one = 0; one < count; one++) {
                 for (int next = 0; next < count; next++) {
                     put(overlaps, one * MOST_WORDS + next, of(one).overlapWith(of(next)));
-                    put(follows, one * MOST_WORDS + next, of(one).last() == of(next).get(0) ? 1 : NONE);
+                    put(follows, one * MOST_WORDS + next, of(one).last() == of(next).signAt(0) ? 1 : NONE);
                 }
             }
             findOrder(overlaps, rowOrder, room);
             chainSize = findOrder(follows, chainOrder, room);
             rowLetters = 0;
             for (int i = 0; i < count; i++) {
-                rowLetters += of(inRow(i)).size() - (i == 0 ? 0 : overlapOf(inRow(i - 1), inRow(i)));
+                rowLetters += of(inRow(i)).length() - (i == 0 ? 0 : overlapOf(inRow(i - 1), inRow(i)));
             }
         }
 
@@ -1051,7 +1051,7 @@ public final class GrownWords {
         private int grown = 0;
         private boolean treaty = false;
 
-        void setAs(Trunk other) {
+        void becomeAs(Trunk other) {
             said = other.said;
             meant = other.meant;
             strap = other.strap;
@@ -1098,7 +1098,7 @@ public final class GrownWords {
             return all[trunk];
         }
 
-        void add(int said, int meant, int strap, boolean treaty) {
+        void addTrunk(int said, int meant, int strap, boolean treaty) {
             if (count < MOST_TRUNKS) {
                 Trunk one = get(count);
                 one.said = said;
@@ -1110,11 +1110,11 @@ public final class GrownWords {
             }
         }
 
-        void setAs(Trunks other) {
+        void copyAll(Trunks other) {
             count = other.count;
             day = other.day;
             for (int t = 0; t < count; t++) {
-                get(t).setAs(other.get(t));
+                get(t).becomeAs(other.get(t));
             }
         }
 
@@ -1156,8 +1156,8 @@ public final class GrownWords {
         private int seenSize = 0;
         private final int[] refused = new int[3];
 
-        void setAs(Story other) {
-            now.setAs(other.now);
+        void takeOver(Story other) {
+            now.copyAll(other.now);
             copyRow(other.acts, acts);
             oldestAct = other.oldestAct;
             actsKept = other.actsKept;
@@ -1169,7 +1169,7 @@ public final class GrownWords {
         }
 
         void beginWith(Trunks told) {
-            now.setAs(told);
+            now.copyAll(told);
             oldestAct = 0;
             actsKept = 0;
             seenSize = 0;
@@ -1252,8 +1252,8 @@ public final class GrownWords {
         private int heatCount = 0;
         private final Rule rule = new Rule();
 
-        void clear() {
-            words.clear();
+        void forgetAll() {
+            words.startAnew();
             told.count = 0;
             heatCount = 0;
             rule.clear();
@@ -1271,7 +1271,7 @@ public final class GrownWords {
         }
 
         int fullOf(Trunk trunk) {
-            return Math.min(words.of(trunk.said).size(), words.of(trunk.meant).size());
+            return Math.min(words.of(trunk.said).length(), words.of(trunk.meant).length());
         }
 
         boolean isFull(Trunk trunk) {
@@ -1279,19 +1279,19 @@ public final class GrownWords {
         }
 
         int blendSize(Trunk trunk) {
-            return words.of(trunk.said).size() + words.of(trunk.meant).size() - trunk.grown;
+            return words.of(trunk.said).length() + words.of(trunk.meant).length() - trunk.grown;
         }
 
         void blendInto(Trunk trunk, Letters blend) {
             Letters said = words.of(trunk.said);
             Letters meant = words.of(trunk.meant);
-            int kept = said.size() - (trunk.grown + 1) / 2;
-            blend.clear();
+            int kept = said.length() - (trunk.grown + 1) / 2;
+            blend.empty();
             for (int i = 0; i < kept; i++) {
-                blend.add(said.get(i));
+                blend.addLetter(said.signAt(i));
             }
-            for (int i = trunk.grown / 2; i < meant.size(); i++) {
-                blend.add(meant.get(i));
+            for (int i = trunk.grown / 2; i < meant.length(); i++) {
+                blend.addLetter(meant.signAt(i));
             }
         }
 
@@ -1365,7 +1365,7 @@ public final class GrownWords {
             return size > 0;
         }
 
-        void add(int step) {
+        void addStep(int step) {
             if (size < MOST_BYTES) {
                 put(steps, size, step);
                 size++;
@@ -1510,7 +1510,7 @@ public final class GrownWords {
             return start;
         }
 
-        int size() {
+        int tokenSize() {
             return next - start;
         }
 
@@ -1518,8 +1518,8 @@ public final class GrownWords {
             return number;
         }
 
-        boolean isWord(String word) {
-            if (kind != WORD || size() != word.length()) {
+        boolean spells(String word) {
+            if (kind != WORD || tokenSize() != word.length()) {
                 return false;
             }
             for (int i = 0; i < word.length(); i++) {
@@ -1531,9 +1531,9 @@ public final class GrownWords {
         }
 
         void spellInto(Letters letters) {
-            letters.clear();
+            letters.empty();
             for (int i = start; i < next; i++) {
-                letters.add(byteAt(i) - 'a' + 1);
+                letters.addLetter(byteAt(i) - 'a' + 1);
             }
         }
     }
@@ -1582,7 +1582,7 @@ public final class GrownWords {
             return fault == 0 && text.kind() != Text.END;
         }
 
-        private boolean refuse(int what) {
+        private boolean blame(int what) {
             fault = what;
             place = text.start();
             return false;
@@ -1590,39 +1590,39 @@ public final class GrownWords {
 
         void readLine(Load load) {
             boolean fine;
-            if (text.isWord("word")) {
+            if (text.spells("word")) {
                 fine = readWord(load.words);
-            } else if (text.isWord("trunk") || text.isWord("treaty")) {
-                fine = readTrunk(load, text.isWord("treaty"));
-            } else if (text.isWord("heat")) {
+            } else if (text.spells("trunk") || text.spells("treaty")) {
+                fine = readTrunk(load, text.spells("treaty"));
+            } else if (text.spells("heat")) {
                 fine = readHeat(load);
-            } else if (text.isWord("grows")) {
+            } else if (text.spells("grows")) {
                 fine = readGrows(load.rule);
             } else {
-                fine = refuse(1);
+                fine = blame(1);
             }
             if (fine && text.kind() != ';') {
-                refuse(1);
+                blame(1);
             } else if (fine) {
                 text.step();
             }
         }
 
         private boolean readWord(Words words) {
-            if (words.size() >= MOST_WORDS) {
-                return refuse(2);
+            if (words.many() >= MOST_WORDS) {
+                return blame(2);
             }
             text.step();
             if (text.kind() != Text.WORD) {
-                return refuse(1);
+                return blame(1);
             }
-            if (text.size() > MOST_LETTERS) {
-                return refuse(2);
+            if (text.tokenSize() > MOST_LETTERS) {
+                return blame(2);
             }
-            Letters letters = words.of(words.size());
+            Letters letters = words.of(words.many());
             text.spellInto(letters);
-            if (words.isTold(letters)) {
-                return refuse(4);
+            if (words.hasAlready(letters)) {
+                return blame(4);
             }
             text.step();
             int firm = readNumber(GREATEST_DIGIT, 2);
@@ -1636,11 +1636,11 @@ public final class GrownWords {
         private int readNumber(int most, int faultAbove) {
             boolean fine = true;
             if (text.kind() != Text.NUMBER) {
-                fine = refuse(1);
-            } else if (text.size() > MOST_DIGITS) {
-                fine = refuse(2);
+                fine = blame(1);
+            } else if (text.tokenSize() > MOST_DIGITS) {
+                fine = blame(2);
             } else if (text.number() > most) {
-                fine = refuse(faultAbove);
+                fine = blame(faultAbove);
             }
             int number = text.number();
             if (fine) {
@@ -1651,22 +1651,22 @@ public final class GrownWords {
 
         private boolean readTrunk(Load load, boolean treaty) {
             if (load.told.count >= MOST_TRUNKS) {
-                return refuse(2);
+                return blame(2);
             }
             text.step();
-            int lastWord = load.words.size() - 1;
+            int lastWord = load.words.many() - 1;
             int said = readNumber(lastWord, 3);
             int meant = said == NONE ? NONE : readNumber(lastWord, 3);
             int strap = meant == NONE ? NONE : readNumber(GREATEST_DIGIT, 2);
             if (strap != NONE) {
-                load.told.add(said, meant, strap, treaty);
+                load.told.addTrunk(said, meant, strap, treaty);
             }
             return strap != NONE;
         }
 
         private boolean readHeat(Load load) {
             if (load.heatCount > 0) {
-                return refuse(5);
+                return blame(5);
             }
             text.step();
             for (int k = 0; k < MOST_HEATS; k++) {
@@ -1679,12 +1679,12 @@ public final class GrownWords {
                 }
                 load.addHeat(heat);
             }
-            return text.kind() != Text.NUMBER || refuse(2);
+            return text.kind() != Text.NUMBER || blame(2);
         }
 
         private boolean readGrows(Rule rule) {
             if (rule.isTold()) {
-                return refuse(5);
+                return blame(5);
             }
             text.step();
             openCount = 0;
@@ -1708,31 +1708,31 @@ public final class GrownWords {
         private boolean readPart(Rule rule) {
             int kind = text.kind();
             if (kind != Text.NUMBER && kind != Text.WORD && kind != '(') {
-                return refuse(1);
+                return blame(1);
             }
             if (exprBegins && within >= MOST_WITHIN) {
-                return refuse(2);
+                return blame(2);
             }
             exprBegins = kind == '(';
             if (kind == '(') {
                 openSign(OPEN);
                 within++;
                 notsAnew(true);
-            } else if (notCan && text.isWord("not")) {
+            } else if (notCan && text.spells("not")) {
                 if (nots >= MOST_NOTS) {
-                    return refuse(2);
+                    return blame(2);
                 }
                 nots++;
                 openSign(Rule.NOT);
             } else {
                 int value = kind == Text.NUMBER ? text.number() : valueOfWord();
-                if (kind == Text.NUMBER && text.size() > MOST_DIGITS) {
-                    return refuse(2);
+                if (kind == Text.NUMBER && text.tokenSize() > MOST_DIGITS) {
+                    return blame(2);
                 }
                 if (kind == Text.WORD && value == 0) {
-                    return refuse(3);
+                    return blame(3);
                 }
-                rule.add(value);
+                rule.addStep(value);
                 partDue = false;
             }
             text.step();
@@ -1757,12 +1757,12 @@ public final class GrownWords {
             int sign = signOfToken();
             int rank = rankOf(sign);
             if (rank == 0) {
-                return refuse(1);
+                return blame(1);
             }
             // A test ahead of a test stays open, and is found below: none can follow it.
             closeSigns(rule, rank == RANK_TEST ? rank + 1 : rank);
             if (rank == RANK_TEST && rankOf(lastOpen()) == RANK_TEST) {
-                return refuse(1);
+                return blame(1);
             }
             openSign(sign);
             partDue = true;
@@ -1783,19 +1783,19 @@ public final class GrownWords {
         /** Signs that bind no less go into the rule, as far as a parenthesis (whose rank is 0). */
         private void closeSigns(Rule rule, int rank) {
             while (openCount > 0 && rankOf(lastOpen()) >= rank) {
-                rule.add(lastOpen());
+                rule.addStep(lastOpen());
                 openCount--;
             }
         }
 
         private int valueOfWord() {
-            return text.isWord("strap") ? Rule.STRAP
-                    : text.isWord("heat") ? Rule.HEAT
-                    : text.isWord("grown") ? Rule.GROWN
-                    : text.isWord("said") ? Rule.SAID
-                    : text.isWord("meant") ? Rule.MEANT
-                    : text.isWord("overlap") ? Rule.OVERLAP
-                    : text.isWord("day") ? Rule.DAY : 0;
+            return text.spells("strap") ? Rule.STRAP
+                    : text.spells("heat") ? Rule.HEAT
+                    : text.spells("grown") ? Rule.GROWN
+                    : text.spells("said") ? Rule.SAID
+                    : text.spells("meant") ? Rule.MEANT
+                    : text.spells("overlap") ? Rule.OVERLAP
+                    : text.spells("day") ? Rule.DAY : 0;
         }
 
         private int signOfToken() {
@@ -1813,7 +1813,7 @@ public final class GrownWords {
                 case '/':
                     return Rule.OVER;
                 default:
-                    return text.isWord("or") ? Rule.OR : text.isWord("and") ? Rule.AND : 0;
+                    return text.spells("or") ? Rule.OR : text.spells("and") ? Rule.AND : 0;
             }
         }
 
