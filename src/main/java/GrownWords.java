@@ -1556,7 +1556,6 @@ public final class GrownWords {
         private int nots = 0;
         private boolean partDue = false;
         private boolean notCan = false;
-        private boolean exprBegins = false;
 
         Reader(byte[] bytes) {
             text = new Text(bytes);
@@ -1690,7 +1689,6 @@ public final class GrownWords {
             openCount = 0;
             within = 0;
             partDue = true;
-            exprBegins = true;
             notsAnew(true);
             boolean fine = true;
             for (int k = 0; k <= MOST_BYTES && fine && !exprEnds(); k++) {
@@ -1710,10 +1708,10 @@ public final class GrownWords {
             if (kind != Text.NUMBER && kind != Text.WORD && kind != '(') {
                 return blame(1);
             }
-            if (exprBegins && within >= MOST_WITHIN) {
+            // No EXPR gets beyond its first token here.
+            if (within >= MOST_WITHIN) {
                 return blame(2);
             }
-            exprBegins = kind == '(';
             if (kind == '(') {
                 openSign(OPEN);
                 within++;

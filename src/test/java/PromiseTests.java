@@ -241,6 +241,13 @@ public final class PromiseTests {
         faultAt(1, "@x");
         faultAt(1, "@words a 1;");
         faultAt(1, "@;");
+        faultAt(1, "@xord a 1;");
+        faultAt(1, "@worx a 1;");
+        faultAt(1, "word a 1;@grunk 0 0 1;");
+        faultAt(1, "word a 1;@trunks 0 0 1;");
+        faultAt(1, "word a 1;@creaty 0 0 1;");
+        faultAt(1, "@meat 1;");
+        faultAt(1, "@grow 1;");
         faultAt(1, "@1");
         faultAt(1, "  @#");
         faultAt(1, "@Word a 1;");
@@ -326,6 +333,11 @@ public final class PromiseTests {
         faultAt(0, "grows 9999;");
         faultAt(1, "grows 1 @10000;");
         faultAt(3, "grows @foo;");
+        faultAt(3, "grows @trap;");
+        faultAt(3, "grows @drown;");
+        faultAt(1, "grows 1 @ar 1;");
+        faultAt(1, "grows 1 @end 1;");
+        faultAt(3, "grows @hot 1;");
         faultAt(3, "grows @and;");
         faultAt(3, "grows @word;");
         faultAt(3, "grows 1 + @or;");
@@ -406,6 +418,10 @@ public final class PromiseTests {
         x.pack(1, 1, 1);
         due(2, () -> x.word(1, 4));
         due(3, () -> x.word(2, 4));
+        GrownWords z = told("word z 1;word zz 1;word yz 1;word zy 1;");
+        due(1, () -> z.word(0, 3));
+        due(2, () -> z.word(1, 3));
+        due(12, () -> z.word(2, 3));
         due(NO_SUCH, () -> x.word(4, 0));
         due(NO_SUCH, () -> x.word(-1, 0));
         due(NO_SUCH, () -> x.word(0, 5));
@@ -800,6 +816,13 @@ public final class PromiseTests {
         due(NO_SUCH, () -> x.alike(0, 4));
         due(NO_SUCH, () -> x.alike(4, 4));
         due(NO_SUCH, () -> x.alike(-1, 0));
+        // With the first day both are abccd; below abc, abd, abd.
+        GrownWords w = told("word abcd 1;word cd 2;word ab 3;word abccd 4;trunk 0 1 0;trunk 3 1 0;grows said;");
+        due(1, () -> w.alike(0, 1));
+        GrownWords v = told("word abc 1;word abd 2;word c 2;word d 1;trunk 0 2 0;trunk 1 3 0;trunk 0 3 0;grows 1;");
+        due(-1, () -> v.alike(0, 1));
+        due(-1, () -> v.alike(0, 2));
+        due(1, () -> v.alike(1, 2));
         GrownWords y = told("word ab 1;word ba 1;trunk 0 0 1;trunk 1 1 2;trunk 0 0 5;"
             + "grows (day = 59 and strap < 3 or day = 60) * 2;");
         due(0, () -> y.alike(0, 2));
@@ -860,6 +883,8 @@ public final class PromiseTests {
         // Nothing overlaps: the first row; a word within another one counts whole.
         GrownWords z = told("word ab 1;word a 1;word cabc 1;");
         order(new int[] {0, 1, 2}, () -> z.row(-1), z::row, 7);
+        GrownWords two = told("word ab 1;word bc 1;word xy 1;word yz 1;");
+        order(new int[] {0, 1, 2, 3}, () -> two.row(-1), two::row, 6);
         GrownWords one = told("word ab 1;");
         order(new int[] {0}, () -> one.row(-1), one::row, 2);
         GrownWords none = new GrownWords();
@@ -906,6 +931,11 @@ public final class PromiseTests {
         due(WRONG, () -> x.toDraw(0, -1));
         GrownWords y = told("word abc 1;trunk 0 0 0;grows strap = 4 or strap = 7;");
         due(7, () -> y.toDraw(0, 3));
+        GrownWords z = told("word a 1;trunk 0 0 5;heat 1;");
+        due(0, () -> z.toDraw(0, 1));
+        GrownWords all = told("word a 1;trunk 0 0 5;grows day = 59;");
+        due(9, () -> all.toDraw(0, 60));
+        due(-1, () -> all.toDraw(0, 59));
     }
 
     private static void partners(GrownWords x, int total, int... with) {
@@ -1028,6 +1058,13 @@ public final class PromiseTests {
         z.see(0, 3, 13);
         due(1, () -> z.loose(0));
         due(1, () -> z.look(1));
+        // Six days: the sixth is day 5.
+        GrownWords six = told("word a 1;word b 2;trunk 0 0 9;trunk 1 1 9;grows day = said + 4 and strap < 3;");
+        due(0, () -> six.look(0));
+        due(2, () -> six.look(1));
+        GrownWords seven = told("word a 1;word b 2;trunk 1 1 9;trunk 0 0 9;grows day = said + 4 and strap < 3;");
+        due(1, () -> seven.look(0));
+        due(2, () -> seven.look(1));
         GrownWords none = new GrownWords();
         due(-1, () -> none.look(0));
         due(0, () -> none.look(1));
@@ -1092,6 +1129,11 @@ public final class PromiseTests {
         due(4, () -> y.game(0, 2, 0));
         due(0, () -> y.game(0, 2, 1));
         due(0, () -> y.game(1, 0, 1));
+        // Four days: the fourth is day 3.
+        GrownWords z = told("word abcdefgh 3;word ijklmnop 4;trunk 0 0 1;trunk 1 1 1;grows (day = said) * (strap = 1) * 3;");
+        due(1, () -> z.game(0, 1, 0));
+        due(10, () -> z.game(0, 1, 1));
+        due(1, () -> z.game(1, 0, 1));
     }
 
     private static void years() {
@@ -1125,6 +1167,24 @@ public final class PromiseTests {
         int strap = draws(drawn, 3) % 10;
         GrownWords z = told("word abcdefgh 2;trunk 0 0 0;grows strap = " + strap + " and 0 < strap;");
         due(strap > 0 ? 15 : 16, () -> z.years(drawn, 1, 2));
+        // Another word in its half: the trunk of words of 4 and 4 letters gets one of 3, or of 5, ahead or behind.
+        for (int seed = seedOf(2); seed < 400; seed++) {
+            int one = seed;
+            if (draws(seed, 1) % 6 == 2) {
+                GrownWords w = told("word a 1;word abcdefg 1;word abcd 1;trunk 2 2 0;grows 0;");
+                int[] sizes = {1, 7, 4};
+                due(4 + sizes[draws(seed, 3) % 3], () -> w.years(one, 1, 2));
+                GrownWords v = told("word a 1;word abcdefg 2;word abcd 3;trunk 2 2 0;grows said = 3;");
+                boolean said = draws(seed, 4) % 2 == 0 && draws(seed, 3) % 3 != 2;
+                due(4 + sizes[draws(seed, 3) % 3] - (said ? 0 : 1), () -> v.years(one, 1, 2));
+            }
+        }
+        // Of two trunks one that is full, and one that becomes so: counted once.
+        GrownWords u = told("word a 1;word b 2;trunk 0 0 0;trunk 1 1 0;grows day = said;");
+        u.days(2);
+        due(1, () -> u.count(4));
+        due(1, () -> u.years(quiet, 1, 0));
+        due(2, () -> u.years(quiet, 1, 1));
         GrownWords none = new GrownWords();
         due(0, () -> none.years(9, 60, 0));
         due(0, () -> none.years(9, 60, 1));
@@ -1198,7 +1258,19 @@ public final class PromiseTests {
             due(0, () -> x.count(2));
             due(-1, () -> x.undo());
         }
-        // Without acts between, the image's own acts stay as they were.
+        // What is seen comes back in its places.
+        x.see(0, 1, 7);
+        x.see(1, 2, 3);
+        x.image();
+        x.forget();
+        x.see(2, 3, 1);
+        x.see(2, 3, 2);
+        due(0, () -> x.loose(0));
+        due(1, () -> x.restore() ? 1 : 0);
+        due(5 + 2 + 9, () -> x.loose(0));
+        due(1, () -> x.loose(2));
+        x.forget();
+        // The acts of the image come back, also when more than 40 came behind them.
         for (int i = 0; i < 45; i++) {
             x.days(1);
         }
@@ -1206,8 +1278,8 @@ public final class PromiseTests {
         for (int i = 0; i < 10; i++) {
             x.undo();
         }
-        for (int i = 0; i < 7; i++) {
-            x.days(20);
+        for (int i = 0; i < 57; i++) {
+            x.days(2);
         }
         due(1, () -> x.restore() ? 1 : 0);
         due(45, () -> x.count(2));
