@@ -24,13 +24,11 @@ public final class GrownWords {
     private static final int REFUSED_ACTS = 1;
     private static final int REFUSED_SEEN = 2;
 
-    private final byte[] tape = new byte[MOST_BYTES];
-    private int tapeSize = 0;
     private int faultPlace = NONE;
     private Load load = new Load();
     // A TEXT is read into the spare one, so that a FAULT leaves the other as it was.
     private Load spare = new Load();
-    private final Reader reader = new Reader(tape);
+    private final Reader reader = new Reader();
     private final int[] orderRoom = new int[(1 << MOST_WORDS) * MOST_WORDS];
     private final Story story = new Story();
     private final Story imaged = new Story();
@@ -52,29 +50,19 @@ public final class GrownWords {
     // ---- the tape and what it tells
 
     public int feed(int a, int b, int c, int d, int e) {
-        if (tapeSize + 20 > MOST_BYTES) {
+        if (reader.text.tapeSize + 20 > MOST_BYTES) {
             return NONE;
         }
-        addBytes(a);
-        addBytes(b);
-        addBytes(c);
-        addBytes(d);
-        addBytes(e);
-        return tapeSize;
-    }
-
-    private void addBytes(int number) {
-        for (int shift = 24; shift >= 0; shift -= 8) {
-            if (tapeSize >= 0 && tapeSize < tape.length) {
-                tape[tapeSize] = (byte) (number >> shift);
-                tapeSize++;
-            }
-        }
+        reader.text.takeBytes(a);
+        reader.text.takeBytes(b);
+        reader.text.takeBytes(c);
+        reader.text.takeBytes(d);
+        reader.text.takeBytes(e);
+        return reader.text.tapeSize;
     }
 
     public int baggage(int n) throws IllegalArgumentException {
-        mustFit(n >= 0 && n <= tapeSize);
-        tapeSize = 0;
+        mustFit(n >= 0 && n <= reader.text.tapeSize);
         spare.forgetAll();
         reader.begin(n);
         // Each LINE takes a byte at least.
@@ -122,7 +110,7 @@ public final class GrownWords {
             case 8:
                 return story.seenSize();
             case 9:
-                return tapeSize;
+                return reader.text.tapeSize;
             default:
                 mustBe(what >= 10 && what <= 12);
                 return story.refusals(what - 10);
@@ -1425,14 +1413,15 @@ public final class GrownWords {
         }
     }
 
-    /** The TOKENS of a TEXT, one at a time. */
+    /** The tape, and the TOKENS of the TEXT that is its beginning, one at a time. */
     private static final class Text {
         private static final int END = 0;
         private static final int WORD = 1;
         private static final int NUMBER = 2;
         private static final int NO_TOKEN = 3;
 
-        private final byte[] bytes;
+        private final byte[] bytes = new byte[MOST_BYTES];
+        private int tapeSize = 0;
         private int length = 0;
         private int next = 0;
         // What it is; of a sign its byte.
@@ -1440,11 +1429,19 @@ public final class GrownWords {
         private int start = 0;
         private int number = 0;
 
-        Text(byte[] bytes) {
-            this.bytes = bytes;
+        /** Four bytes, the highest first. */
+        void takeBytes(int number) {
+            for (int shift = 24; shift >= 0; shift -= 8) {
+                if (tapeSize >= 0 && tapeSize < bytes.length) {
+                    bytes[tapeSize] = (byte) (number >> shift);
+                    tapeSize++;
+                }
+            }
         }
 
+        /** The bytes stay where they are until they are read, but on the tape they are no more. */
         void open(int many) {
+            tapeSize = 0;
             length = many;
             next = 0;
             step();
@@ -1546,7 +1543,7 @@ public final class GrownWords {
         private static final int RANK_AND = 2;
         private static final int RANK_TEST = 4;
 
-        private final Text text;
+        private final Text text = new Text();
         private int fault = 0;
         private int place = NONE;
         // Signs of an EXPR whose right part isn't whole: of each of 7 at most a parenthesis, 6 nots, 5 others.
@@ -1556,10 +1553,6 @@ public final class GrownWords {
         private int nots = 0;
         private boolean partDue = false;
         private boolean notCan = false;
-
-        Reader(byte[] bytes) {
-            text = new Text(bytes);
-        }
 
         int place() {
             return place;
