@@ -528,6 +528,11 @@ public final class PromiseTests {
         grows(1, "9999*9999*42 + 9999*9581 + 6831 = 0 - 4");
         // -2147483648 by -1 wraps to itself.
         grows(1, "8192*8192*32 / (0-1) < 0");
+        // As many parts and signs wait as can.
+        String nots = times(6, "not ");
+        grows(1, times(5, "0 or " + nots + "1 and 0 < 0 + 1 * (") + "0 or " + nots + "1 and 0 < 0 + 1 * 3" + times(5, ")"));
+        grows(3, times(5, "0 + 2 * (") + "1" + times(5, " - 1) - 1") + " + 128 - 64");
+        grows(1, times(300, "1+") + "1 - 300");
         GrownWords x = told("word abab 1;word baba 2;trunk 0 1 0;trunk 1 0 0;treaty 0 0 3;grows overlap - 1;");
         due(2, () -> x.then(0, 1, 0));
         due(2, () -> x.then(1, 1, 0));
