@@ -1342,7 +1342,7 @@ public final class GrownWords {
         private final int[] steps = new int[MOST_BYTES];
         private int size = 0;
         private final int[] values = new int[7];
-        // At most 5 parts wait for their signs within each of 7 EXPRs.
+        // At most 5 parts wait for their signs within each of 6 EXPRs, one in the other.
         private final int[] waiting = new int[40];
 
         void clear() {
@@ -1546,7 +1546,7 @@ public final class GrownWords {
         private final Text text = new Text();
         private int fault = 0;
         private int place = NONE;
-        // Signs of an EXPR whose right part isn't whole: of each of 7 at most a parenthesis, 6 nots, 5 others.
+        // Signs whose right part isn't whole: of each of 6 EXPRs at most a parenthesis, 6 nots, 5 others.
         private final int[] open = new int[84];
         private int openCount = 0;
         private int within = 0;
