@@ -778,6 +778,22 @@ public final class BoundarySeenTests {
         Check.due(2, () -> y.count(10));
         Check.due(35, () -> y.fault());
         Check.due(0, () -> y.count(9));
+        // Of what is SEEN the TRUNK, the DAYS, the LETTERS.
+        GrownWords seen = Check.told(ONE_WORD + "4;trunk 0 0 6;heat 5;");
+        seen.see(0, 3, 13);
+        seen.see(1, 4, 16);
+        Check.due(4 + 4, () -> seen.loose(0));
+        int[][] others = {{1, 3, 13}, {0, 4, 13}, {0, 3, 12}};
+        for (int[] one : others) {
+            seen.image();
+            seen.forget();
+            seen.see(one[0], one[1], one[2]);
+            seen.see(1 - one[0], 4, 11);
+            Check.due(0, () -> seen.loose(0));
+            Check.due(1, () -> seen.restore() ? 1 : 0);
+            Check.due(8, () -> seen.loose(0));
+            Check.due(1, () -> seen.loose(2));
+        }
         // That one is kept changes nothing.
         Check.leaves(BoundarySeenTests::withImage, 0, Check.NO_STATUS, z -> image(z));
     }

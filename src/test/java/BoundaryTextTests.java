@@ -91,6 +91,7 @@ public final class BoundaryTextTests {
     private static void baggage() {
         Check.sentence("are BAGGAGE, all anew", BoundaryTextTests::allAnew);
         Check.sentence("all anew: behind a FAULT in the midst of an EXPR", BoundaryTextTests::anewBehindAFault);
+        Check.sentence("all anew: behind a hundred FAULTS", BoundaryTextTests::manyFaults);
         Check.sentence("0 (STATUS stays)", BoundaryTextTests::statusStays);
         Check.sentence("or the FAULT (all else stays, but STATUS)", BoundaryTextTests::allElseStays);
         Check.sentence("ACTS, what is SEEN, the image are gone.", BoundaryTextTests::gone);
@@ -165,6 +166,16 @@ public final class BoundaryTextTests {
         Check.due(2, () -> x.count(0));
         Check.due(8, () -> x.word(1, 1));
         Check.due(20, () -> x.feed(0, 0, 0, 0, 0));
+        Check.leaves(BoundaryTextTests::richAndFull, -1, Check.NO_STATUS, y -> y.feed(-1, -1, -1, -1, -1));
+    }
+
+    /** 40 bytes of LINES, and blanks up to 700. */
+    private static void richAndFull(GrownWords x) {
+        Check.used(x);
+        Check.feedAll(x, "word tape 7;word ink 2;trunk 1 0 3;     ");
+        for (int k = 0; k < 33; k++) {
+            x.feed(0x20202020, 0x20202020, 0x20202020, 0x20202020, 0x20202020);
+        }
     }
 
     private static void longestText() {
@@ -856,6 +867,8 @@ public final class BoundaryTextTests {
         String much = EIGHT_WORDS.replace("a 0", "abcdefgh 0") + Check.times(6, "treaty 0 0 0;") + "heat 9 0;grows 3;";
         // Whatever is told, and as often as it is told, nothing of it is left behind the next text.
         for (int k = 0; k < 3; k++) {
+            // Twice, so that whatever the object reads a text into has held it.
+            Check.due(0, () -> Check.tell(x, much));
             Check.due(0, () -> Check.tell(x, much));
             x.days(1);
             Check.due(6 * 16 - 36, () -> x.count(6));
@@ -871,6 +884,7 @@ public final class BoundaryTextTests {
             Check.due(2, () -> x.word(0, 0));
             Check.due(Check.NO_SUCH, () -> x.letter(0, 2));
             Check.due(Check.NO_SUCH, () -> x.letter(2, 0));
+            Check.due(Check.NO_SUCH, () -> x.letter(7, 0));
             Check.due(Check.NO_SUCH, () -> x.word(2, 0));
             Check.due(Check.NO_SUCH, () -> x.trunk(1, 0));
             Check.due(3, () -> x.row(-1));
@@ -910,6 +924,20 @@ public final class BoundaryTextTests {
                 Check.due(1, () -> x.count(3));
                 Check.due(1, () -> x.word(0, 0));
             }
+        }
+    }
+
+    private static void manyFaults() {
+        String[] broken = {"grows (((((", "grows ((((((", "grows 1+(1+(1+(", "grows not not not"};
+        String deep = Check.times(5, "(1*") + "2" + Check.times(5, ")");
+        for (String fault : broken) {
+            GrownWords x = new GrownWords();
+            for (int k = 0; k < 100; k++) {
+                Check.tell(x, fault);
+            }
+            Check.due(100, () -> x.count(10));
+            Check.due(0, () -> Check.tell(x, "word abc 1;trunk 0 0 9;grows " + deep + ";"));
+            Check.due(2, () -> x.then(0, 1, 0));
         }
     }
 

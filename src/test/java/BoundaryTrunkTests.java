@@ -24,6 +24,8 @@ public final class BoundaryTrunkTests {
         Check.sentence("without it 1, if HEAT of that DAY is above the STRAP, else 0", BoundaryTrunkTests::aboveTheStrap);
         Check.sentence("a TREATY twice so much, but FULL at most", BoundaryTrunkTests::fullAtMost);
         Check.sentence("by what is so at its turn", BoundaryTrunkTests::atItsTurn);
+        Check.sentence("VALUES of a TRUNK: 'strap', 'heat', 'grown', 'said', 'meant', 'overlap', 'day'",
+            BoundaryTrunkTests::values);
         Check.sentence("The DAY is one more then.", BoundaryTrunkTests::oneDayMore);
     }
 
@@ -65,6 +67,8 @@ public final class BoundaryTrunkTests {
         Check.sentence("ACTS (at most 40 are kept, the latest ones", BoundaryTrunkTests::fortyActs);
         Check.sentence("what its call doesn't refuse is one, also where all is as it was", BoundaryTrunkTests::allAsItWas);
         Check.sentence("They are UNDONE, the last one first.", BoundaryTrunkTests::lastOneFirst);
+        Check.sentence("They are UNDONE: of six TRUNKS each.", BoundaryTrunkTests::sixTrunksUndone);
+        Check.sentence("The last ACT is UNDONE: how many are left.", BoundaryTrunkTests::undoesActsAlone);
         Check.sentence("undo: NONE: there is none.", BoundaryTrunkTests::noAct);
     }
 
@@ -234,6 +238,52 @@ public final class BoundaryTrunkTests {
         y.pack(0, 0, 1);
         y.pack(0, 1, 1);
         Check.due(0, () -> y.then(0, 9, 0));
+    }
+
+    /** The first TRUNK of a text, on its next DAY, must find a VALUE so. */
+    private static void isWorth(int want, String value, String text, int daysAhead) {
+        GrownWords x = Check.told(text + "grows (" + value + " = " + want + ") * 3;");
+        toDay(x, daysAhead);
+        int grown = x.trunk(0, 3);
+        Check.due(grown + 3, () -> x.then(0, 1, 0));
+    }
+
+    private static void values() {
+        String text = "word abcdefga 0;word abcdefgh 9;word bcdefgha 4;";
+        // The least and the greatest of each.
+        isWorth(0, "strap", text + "trunk 0 1 0;", 0);
+        isWorth(9, "strap", text + "trunk 0 1 9;", 0);
+        isWorth(0, "heat", text + "trunk 0 1 5;heat 0;", 0);
+        isWorth(9, "heat", text + "trunk 0 1 5;heat 1 9;", 1);
+        isWorth(5, "heat", text + "trunk 0 1 2;", 0);
+        isWorth(0, "said", text + "trunk 0 1 5;", 0);
+        isWorth(9, "said", text + "trunk 1 0 5;", 0);
+        isWorth(0, "meant", text + "trunk 1 0 5;", 0);
+        isWorth(9, "meant", text + "trunk 0 1 5;", 0);
+        isWorth(0, "grown", text + "trunk 0 1 5;", 0);
+        isWorth(0, "day", text + "trunk 0 1 5;", 0);
+        isWorth(999, "day", text + "trunk 0 1 5;", 999);
+        // Of what is SAID with what is MEANT, not the other way round.
+        isWorth(1, "overlap", text + "trunk 2 1 5;", 0);
+        isWorth(1, "overlap", text + "trunk 0 1 5;", 0);
+        isWorth(0, "overlap", text + "trunk 1 0 5;", 0);
+        isWorth(7, "overlap", text + "trunk 1 2 5;", 0);
+        isWorth(7, "overlap", "word aaaaaaaa 1;trunk 0 0 5;", 0);
+        isWorth(0, "overlap", "word abcdefgh 1;trunk 0 0 5;", 0);
+        GrownWords grown = Check.told("word abcdefgh 1;trunk 0 0 5;grows (grown = day * 2) * 2;");
+        Check.due(8, () -> grown.then(0, 4, 0));
+        // Behind TURNED, DRAWN and PACKED those of now.
+        GrownWords x = Check.told(text + "trunk 0 1 0;grows (said - 1) / 4 + (meant = 9) + (strap = 9) * 3;");
+        Check.due(1, () -> x.then(0, 1, 0));
+        x.turn(0);
+        Check.due(2, () -> x.then(0, 1, 0));
+        x.draw(0, 9);
+        Check.due(3, () -> x.then(0, 1, 0));
+        x.draw(0, 8);
+        x.pack(0, 0, 2);
+        Check.due(0, () -> x.then(0, 1, 0));
+        x.pack(0, 1, 1);
+        Check.due(1, () -> x.then(0, 1, 0));
     }
 
     private static void oneDayMore() {
@@ -729,6 +779,71 @@ public final class BoundaryTrunkTests {
             int left = now.length - 2 - k;
             Check.due(left, () -> x.undo());
         }
+    }
+
+    private static void sixTrunksUndone() {
+        GrownWords x = Check.told("word abcdefgh 1;word bcdefghi 2;trunk 0 0 0;trunk 0 0 1;trunk 0 0 2;trunk 0 0 3;trunk 0 0 4;"
+            + "trunk 0 1 5;grows strap / 2;");
+        x.days(2);
+        for (int t = 5; t >= 0; t--) {
+            x.turn(t);
+            x.draw(t, 9);
+            x.pack(t, 0, t == 5 ? 0 : 1);
+            x.days(1);
+        }
+        Check.due(25, () -> x.count(7));
+        for (int t = 0; t <= 5; t++) {
+            for (int k = 0; k < 4; k++) {
+                x.undo();
+            }
+            // Those behind it are as they were, when it was its turn.
+            int trunk = t;
+            Check.due(t, () -> x.trunk(trunk, 2));
+            Check.due(t == 5 ? 1 : 0, () -> x.trunk(trunk, 1));
+            Check.due(0, () -> x.trunk(trunk, 0));
+            int days = 2 + 5 - t;
+            Check.due(days, () -> x.count(2));
+            Check.due(Math.min(8, t / 2 * days), () -> x.trunk(trunk, 3));
+        }
+        for (int t = 0; t <= 5; t++) {
+            int trunk = t;
+            Check.due(t / 2 * 2, () -> x.trunk(trunk, 3));
+        }
+        Check.due(0, () -> x.undo());
+        Check.due(96, () -> x.count(6));
+    }
+
+    private static void undoesActsAlone() {
+        GrownWords x = Check.told(SMOKE);
+        x.days(1);
+        x.turn(0);
+        x.image();
+        x.see(0, 1, 7);
+        x.days(0);
+        x.see(0, 0, 17);
+        Check.due(1, () -> Check.tell(x, "#"));
+        Check.feedAll(x, "word a 1;");
+        Check.due(1, () -> x.undo());
+        Check.due(0, () -> x.undo());
+        // What is SEEN, the tape, the FAULT, STATUS, the IMAGE stay.
+        Check.due(1, () -> x.count(8));
+        Check.due(20, () -> x.count(9));
+        Check.due(0, () -> x.fault());
+        Check.due(1, () -> x.count(10));
+        Check.due(1, () -> x.count(11));
+        Check.due(1, () -> x.count(12));
+        Check.due(1, () -> x.restore() ? 1 : 0);
+        Check.due(2, () -> x.count(7));
+        Check.due(1, () -> x.trunk(0, 0));
+        // What was undone is no ACT any more, and isn't undone again.
+        Check.due(1, () -> x.undo());
+        x.draw(0, 0);
+        Check.due(2, () -> x.count(7));
+        Check.due(1, () -> x.undo());
+        Check.due(4, () -> x.trunk(0, 2));
+        Check.due(1, () -> x.trunk(0, 3));
+        Check.due(0, () -> x.undo());
+        Check.due(0, () -> x.trunk(0, 3));
     }
 
     private static void noAct() {

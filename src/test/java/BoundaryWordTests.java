@@ -98,6 +98,8 @@ public final class BoundaryWordTests {
         int[][] cases = {{0, 1, 1}, {0, 2, 0}, {0, 3, 1}, {0, 4, 4}, {0, 5, 1}, {1, 5, 0}, {6, 0, 1}, {6, 1, 1}, {3, 4, 1}};
         for (int[] one : cases) {
             Check.due(one[2], () -> x.both(one[0], one[1], 2));
+            // What was asked ahead makes no difference.
+            x.both(2, one[1], 1);
             Check.due(one[2], () -> x.both(one[1], one[0], 2));
         }
     }
