@@ -90,6 +90,8 @@ public final class BoundaryTextTests {
 
     private static void baggage() {
         Check.sentence("are BAGGAGE, all anew", BoundaryTextTests::allAnew);
+        Check.sentence("all anew: WORDS behind more and longer ones", BoundaryTextTests::anewBehindLongerWords);
+        Check.sentence("all anew: rows of WORDS, rules, HEAT behind longer ones", BoundaryTextTests::anewBehindLongerRows);
         Check.sentence("all anew: behind a FAULT in the midst of an EXPR", BoundaryTextTests::anewBehindAFault);
         Check.sentence("all anew: behind a hundred FAULTS", BoundaryTextTests::manyFaults);
         Check.sentence("0 (STATUS stays)", BoundaryTextTests::statusStays);
@@ -435,6 +437,19 @@ public final class BoundaryTextTests {
             Check.faultOf(1, end.length(), end);
             Check.faultOf(1, end.length() + 3, end + " \n ");
         }
+        // What stands on the tape behind the text is none of it, be it a blank, or more of the same TOKEN.
+        for (int n = 4; n <= 14; n++) {
+            int many = n;
+            boolean whole = n >= 12;
+            GrownWords x = new GrownWords();
+            Check.feedAll(x, "word  a  1 ;  word b");
+            Check.due(whole ? 0 : 1, () -> x.baggage(many));
+            Check.due(whole ? -1 : many, () -> x.fault());
+        }
+        GrownWords y = new GrownWords();
+        Check.feedAll(y, "heat 1234;");
+        Check.due(1, () -> y.baggage(6));
+        Check.due(6, () -> y.fault());
     }
 
     // ---- NUMBERS
@@ -899,6 +914,71 @@ public final class BoundaryTextTests {
             Check.due(0, () -> Check.tell(x, "word a 1;trunk 0 0 5;"));
             Check.due(0, () -> x.then(0, 60, 0));
             Check.due(1, () -> x.row(-1));
+        }
+    }
+
+    /** Tells the first text twice, so that whatever the object reads a text into has held it, then the other one. */
+    private static GrownWords toldBehind(String first, String text) {
+        GrownWords x = Check.told(first);
+        Check.due(0, () -> Check.tell(x, first));
+        Check.due(0, () -> Check.tell(x, text));
+        return x;
+    }
+
+    private static void anewBehindLongerWords() {
+        // A third WORD that is no more would be the nearest, and hold ab; another one would be an ANAGRAM.
+        GrownWords x = toldBehind("word x 1;word y 1;word abab 1;trunk 0 0 1;", "word ab 1;word ca 1;trunk 0 0 9;");
+        Check.due(0, () -> x.then(0, 0, 2));
+        Check.due(2, () -> x.then(0, 0, 3));
+        Check.due(1, () -> x.word(0, 2));
+        Check.due(Check.NO_SUCH, () -> x.read(0, 2));
+        Check.due(Check.NO_SUCH, () -> x.both(0, 2, 0));
+        Check.due(Check.NO_SUCH, () -> x.pack(0, 0, 2));
+        GrownWords y = toldBehind("word x 1;word y 1;word ba 1;", "word ab 1;word ca 1;");
+        Check.due(1, () -> y.word(0, 3));
+        // LETTERS that are no more.
+        GrownWords z = toldBehind("word abc 1;word xyz 1;", "word ab 1;word ba 1;");
+        Check.due(3, () -> z.word(0, 3));
+        Check.due(1, () -> z.both(0, 1, 0));
+        Check.due(Check.NO_SUCH, () -> z.letter(0, 2));
+        GrownWords w = toldBehind("word abcd 1;word x 1;", "word abc 1;word abcd 1;");
+        Check.due(3, () -> w.both(0, 1, 2));
+        Check.due(1, () -> w.both(0, 1, 1));
+        Check.due(0, () -> w.both(0, 1, 0));
+        Check.due(3, () -> w.word(0, 2));
+        Check.due(2, () -> w.word(1, 2));
+    }
+
+    private static void anewBehindLongerRows() {
+        String ring = "word ha 1;word gh 1;word fg 1;word ef 1;word de 1;word cd 1;word bc 1;word ab 1;";
+        GrownWords x = toldBehind(ring, "word ab 1;word cd 1;word ef 1;");
+        Check.due(6, () -> x.row(-1));
+        Check.due(1, () -> x.chain(-1));
+        Check.due(0, () -> x.chain(0));
+        for (int i = 0; i < 3; i++) {
+            int place = i;
+            Check.due(place, () -> x.row(place));
+        }
+        GrownWords y = toldBehind(ring, "word bc 1;word ab 1;");
+        Check.due(3, () -> y.row(-1));
+        Check.due(2, () -> y.chain(-1));
+        for (int i = 0; i < 2; i++) {
+            int place = i;
+            Check.due(1 - place, () -> y.row(place));
+            Check.due(1 - place, () -> y.chain(place));
+        }
+        String trunk = "word abc 1;trunk 0 0 4;";
+        String[] longer = {"not 0", "1 + 1 + 1", "1 or 0", "3 - 2 - 1", "not not 1"};
+        for (String expr : longer) {
+            GrownWords z = toldBehind(trunk + "grows " + expr + ";", trunk + "grows 2;");
+            Check.due(2, () -> z.then(0, 1, 0));
+            GrownWords none = toldBehind(trunk + "grows " + expr + " + 2;", trunk);
+            Check.due(1, () -> none.then(0, 1, 0));
+        }
+        GrownWords hot = toldBehind(trunk + "heat 1 2 3 4 5 6 7 8;", trunk + "heat 9 0;");
+        for (int day = 0; day < 9; day++) {
+            Check.due(day % 2 == 0 ? 9 : 0, () -> hot.count(3));
+            hot.days(1);
         }
     }
 

@@ -164,6 +164,10 @@ public final class BoundaryWordTests {
         GrownWords eight = Check.told("word ha 1;word gh 1;word fg 1;word ef 1;word de 1;word cd 1;word bc 1;word ab 1;");
         // A ring: it may begin anywhere; the first one is the least.
         isRow(9, new int[] {0, 7, 6, 5, 4, 3, 2, 1}, eight::row);
+        // Only one of all that end with a can stand ahead of ab.
+        GrownWords ahead = Check.told("word ab 1;word ca 1;word da 1;word ea 1;word fa 1;word ga 1;word ha 1;word ia 1;");
+        isRow(15, new int[] {1, 0, 2, 3, 4, 5, 6, 7}, ahead::row);
+        isRow(2, new int[] {1, 0}, ahead::chain);
         // The fewest and the most LETTERS that there can be.
         GrownWords all = Check.told("word abcdefgh 1;word ijklmnop 1;word bcdefghi 1;word cdefghij 1;word defghijk 1;"
             + "word efghijkl 1;word fghijklm 1;word ghijklmn 1;");
@@ -302,6 +306,11 @@ public final class BoundaryWordTests {
         areCouples(Check.told(words + "trunk 0 0 1;trunk 1 1 1;trunk 0 1 1;trunk 1 0 1;"), 2, 2, 3, 0, 1);
         // The nearest two are no couple, if all together are fewer: ab ab, then aa cc are 2; aa ab, ab cc are 3.
         areCouples(Check.told(words + "trunk 0 0 1;trunk 0 1 1;trunk 0 1 1;trunk 2 2 1;"), 2, 3, 2, 1, 0);
+        // aa, bb, abab, bbbbbb, ab: 2 and 1; aa ab, bb abab would be as few.
+        String five = "word a 1;word b 1;word ab 1;word bbb 1;trunk 0 0 9;trunk 1 1 9;trunk 2 2 9;trunk 3 3 9;trunk 0 1 9;";
+        areCouples(Check.told(five), 3, 2, 4, 0, -1, 1);
+        // And aab: 1, 4 and 1.
+        areCouples(Check.told(five + "trunk 0 2 9;"), 6, 4, 3, 5, 1, 0, 2);
         // The BLENDS of now: abab and bb, aab and bb, ab and bb.
         GrownWords x = Check.told("word ab 1;word b 1;trunk 0 0 4;trunk 1 1 9;");
         areCouples(x, 2, 1, 0);
